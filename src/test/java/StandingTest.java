@@ -99,6 +99,7 @@ public final class StandingTest {
     private static void rest() {
         Run empty = new Run("rest without units");
         fraction(empty, "rest(15, -1, 499, 500", 1, 1);
+        fraction(empty, "rest(15, -1, 0, 1", 1, 1);
 
         Run run = new Run("rest", SIX);
         fraction(run, "rest(15, -1, 0, 100", 235, 6);
@@ -144,6 +145,11 @@ public final class StandingTest {
         like.due("runIn(1, -1, 8, 49)", 2);
         like.due("runIn(1, -1, 8, 50)", 0);
         like.due("runIn(1, -1, 8, 51)", 0);
+
+        // To HOUR 80 REST is 60 at 0 (10 + 60 * 3/4 + 10 * 1/2) and 66 2/3 at 10 (60 + 10 * 2/3): 6 2/3 are 66 2/3 hundredths an HOUR.
+        Run thirds = new Run("runIn of thirds", "unit(0, 10, 0)", "unit(0, 70, 1)", "unit(0, 400, -1)", "unit(0, 400, -1)");
+        thirds.due("runIn(1, -1, 80, 66)", 10);
+        thirds.due("runIn(1, -1, 80, 67)", 0);
 
         Run refused = new Run("runIn refused", SIX);
         refused.dueEach(OUTSIDE, "runIn(-1, 0, 1, 0)", "runIn(16, 0, 1, 0)", "runIn(1, -2, 1, 0)", "runIn(1, 3, 1, 0)", "runIn(1, 0, 0, 0)",
