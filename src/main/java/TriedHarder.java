@@ -551,9 +551,9 @@ public final class TriedHarder {
 
         /**
          * Within a piece each HOUR more of RUN IN takes 1 from REST, so only the beginnings of pieces can
-         * be the best. In least terms the lower number of REST is 12 * 10 * 8 * 6 * 4 * 2 at most (what
-         * failed at risk cancels against those at risk next, unless another UNIT left between), so the
-         * products of the comparison stay within a long; without least terms they would not.
+         * be the best. In least terms the lower number of REST is 12 * 10 * 8 * 6 * 4 * 2 at most (those
+         * who stood at one failure cancel against those AT RISK at the next, unless another UNIT left
+         * between), so the products compared stay within a long; without least terms they would not.
          */
         int bestRunIn(int h, int cost) {
             int best = 0;
