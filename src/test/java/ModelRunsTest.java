@@ -31,6 +31,11 @@ public final class ModelRunsTest {
         for (Call call : CALLS) {
             wrongNumbers(call);
         }
+        for (int units = 0; units <= 12; units += 6) {
+            for (Call call : CALLS) {
+                everyEdgeWithEveryEdge(call, units);
+            }
+        }
         Run.finish();
     }
 
@@ -122,6 +127,43 @@ public final class ModelRunsTest {
                     both("behind wrong numbers", object, model, "plan", new Object[] {700, 20, 2});
                 }
             }
+        }
+    }
+
+    /** All numbers of a call at once at their bounds, just beyond them, and at the ends of int. */
+    private static void everyEdgeWithEveryEdge(Call call, int units) {
+        int places = call.bounds.length / 2;
+        int ways = 1;
+        for (int i = 0; i < places; i++) {
+            ways *= 6;
+        }
+        TriedHarder object = null;
+        Model model = null;
+        for (int way = 0; way < ways; way++) {
+            if (way % 450 == 0) {
+                object = new TriedHarder();
+                model = new Model();
+                beginWith(units, object, model);
+            }
+            Object[] numbers = new Object[places];
+            int rest = way;
+            for (int i = 0; i < places; i++) {
+                int low = call.bounds[2 * i];
+                int high = call.bounds[2 * i + 1];
+                numbers[i] = new int[] {Integer.MIN_VALUE, low - 1, low, high, high + 1, Integer.MAX_VALUE}[rest % 6];
+                rest /= 6;
+            }
+            both("every edge", object, model, call.name, numbers);
+        }
+        both("behind every edge", object, model, "count", new Object[] {15, 7});
+        both("behind every edge", object, model, "used", new Object[] {1});
+        both("behind every edge", object, model, "plan", new Object[] {700, 20, 2});
+    }
+
+    private static void beginWith(int units, TriedHarder object, Model model) {
+        for (int u = 0; u < units; u++) {
+            both("before every edge", object, model, "unit", new Object[] {u % 4, 1 + 7 * u, u % 4 - 1});
+            both("before every edge", object, model, "step", new Object[] {u % 4, 1 + 3 * u});
         }
     }
 }
