@@ -502,12 +502,14 @@ public final class TriedHarder {
         void look(Units units, int set, int cause) {
             from[0] = 0;
             level[0] = 1;
+            pieces = 1;
             int hour = units.nextFailure(set, cause, 0);
-            for (pieces = 1; pieces < from.length && hour != NONE; pieces++) {
+            for (int i = 1; i < from.length && hour != NONE; i++) {
                 int atRisk = units.atRisk(set, hour);
-                from[pieces] = hour;
-                level[pieces] = level[pieces - 1] * (atRisk - units.failedAt(set, cause, hour));
-                raiseAllBefore(pieces, atRisk);
+                from[i] = hour;
+                level[i] = level[i - 1] * (atRisk - units.failedAt(set, cause, hour));
+                raiseAllBefore(i, atRisk);
+                pieces = i + 1;
                 hour = units.nextFailure(set, cause, hour);
             }
         }

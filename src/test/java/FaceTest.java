@@ -47,6 +47,7 @@ public final class FaceTest {
         for (Field field : TriedHarder.class.getDeclaredFields()) {
             if (Modifier.isPublic(field.getModifiers())) {
                 constants.add(field.getType() + " " + field.getName());
+                Run.holdTrue(field.getName() + " is a constant", Modifier.isStatic(field.getModifiers()) && Modifier.isFinal(field.getModifiers()));
             }
         }
         Run.holdTrue("the public constants are " + constants,
@@ -83,6 +84,11 @@ public final class FaceTest {
         for (Class<?> one : inside) {
             Run.holdTrue(one.getName() + " is static", Modifier.isStatic(one.getModifiers()));
             Run.holdTrue(one.getName() + " is not public", !Modifier.isPublic(one.getModifiers()) && !Modifier.isProtected(one.getModifiers()));
+            Run.holdTrue(one.getName() + " has at most twenty fields", one.getDeclaredFields().length <= 20);
+            for (Field field : one.getDeclaredFields()) {
+                int kind = field.getModifiers();
+                Run.holdTrue(field.getName() + ": a static field is final", !Modifier.isStatic(kind) || Modifier.isFinal(kind));
+            }
         }
     }
 
